@@ -236,7 +236,7 @@ public final class VaguePort {
             if (trial.isInPort(ship)) {
                 return n;
             }
-            trial.passDay(1 << ship);
+            trial.passDays(1, 1 << ship);
         }
         return finding(NONE);
     }
@@ -250,7 +250,7 @@ public final class VaguePort {
             if (trial.thickAt(cell) >= v) {
                 return n;
             }
-            trial.passDay(NO_SHIPS);
+            trial.passDays(1, NO_SHIPS);
         }
         return finding(NONE);
     }
@@ -261,7 +261,7 @@ public final class VaguePort {
             if (Integer.bitCount(trial.finishedSayings()) == trial.sayingCount) {
                 return n;
             }
-            trial.passDay(NO_SHIPS);
+            trial.passDays(1, NO_SHIPS);
         }
         return finding(NONE);
     }
@@ -374,7 +374,7 @@ public final class VaguePort {
         for (int sitting = 0; sitting < n; sitting++) {
             present.setPlace(present.placeOfDay(), present.draw() % (NO_SAYING + 1));
             present.makeVaguer(present.draw() % MOST_SAYINGS);
-            present.passDay(ALL_SHIPS);
+            present.passDays(1, ALL_SHIPS);
         }
         return present.shipsInPort();
     }
@@ -656,7 +656,7 @@ public final class VaguePort {
             if (told != ANY && told != trial.thickAt(cell)) {
                 return false;
             }
-            trial.passDay(NO_SHIPS);
+            trial.passDays(1, NO_SHIPS);
         }
         return true;
     }
@@ -947,15 +947,22 @@ public final class VaguePort {
         int thickAt(int cell) {
             int together = 0;
             for (int saying = 0; saying < sayingCount; saying++) {
-                int kind = sayingHas(saying, OF_KIND);
-                int off = Math.abs(cell - sayingHas(saying, OF_CELL));
-                if (!isFinished(saying) && off <= Kinds.reaches(kind)) {
-                    int thickens = Kinds.thickens(kind, sayingHas(saying, OF_VAGUE),
-                            sayingHas(saying, OF_SAID));
-                    together += thickens - off * Kinds.fades(kind, thickens);
+                if (!isFinished(saying)) {
+                    together += shareAt(saying, cell);
                 }
             }
             return Math.max(0, together);
+        }
+
+        private int shareAt(int saying, int cell) {
+            int kind = sayingHas(saying, OF_KIND);
+            int off = Math.abs(cell - sayingHas(saying, OF_CELL));
+            if (off > Kinds.reaches(kind)) {
+                return 0;
+            }
+            int thickens = Kinds.thickens(kind, sayingHas(saying, OF_VAGUE),
+                    sayingHas(saying, OF_SAID));
+            return thickens - off * Kinds.fades(kind, thickens);
         }
 
         boolean isInPort(int ship) {
@@ -966,26 +973,22 @@ public final class VaguePort {
             return cell != PORT && shipHas(ship, SHIP_SEES) >= thickAt(cell);
         }
 
+        /** Ships don't change what others do, so that a trial moves only those that it asks for. */
         void passDays(int n, int moving) {
             for (int passed = 0; passed < n; passed++) {
-                passDay(moving);
-            }
-        }
-
-        /** Ships don't change what others do, so that a trial moves only those that it asks for. */
-        void passDay(int moving) {
-            for (int ship = 0; ship < shipCount; ship++) {
-                if ((moving >> ship & 1) == 1 && !isInPort(ship)) {
-                    sail(ship);
+                for (int ship = 0; ship < shipCount; ship++) {
+                    if ((moving >> ship & 1) == 1 && !isInPort(ship)) {
+                        sail(ship);
+                    }
                 }
-            }
-            finishByList(placeAt(placeOfDay()));
-            for (int saying = 0; saying < sayingCount; saying++) {
-                if (!isFinished(saying)) {
-                    blur(saying);
+                finishByList(placeAt(placeOfDay()));
+                for (int saying = 0; saying < sayingCount; saying++) {
+                    if (!isFinished(saying)) {
+                        blur(saying);
+                    }
                 }
+                day = Math.min(MOST_DAY, day + 1);
             }
-            day = Math.min(MOST_DAY, day + 1);
         }
 
         private void sail(int ship) {
