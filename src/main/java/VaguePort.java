@@ -390,10 +390,7 @@ public final class VaguePort {
             above *= good;
             below *= CELLS;
         }
-        if (above == 0) {
-            below = 1;
-        }
-        // What is below the line is a power of two, so halving is all that can be cut.
+        // What is below the line is a power of two, so halving is all that can be cut (0 too: 0/1).
         for (int halved = 0; halved < 4 * MOST_ODDS && below > 1 && above % 2 == 0; halved++) {
             above /= 2;
             below /= 2;

@@ -4,6 +4,7 @@ public final class PromiseTest {
     private static final int FULL = -1000002;
     private static final int KIND = -1000003;
     private static final int NONE = -1000004;
+    private static final int STATE = -1000005;
     private static final int MISSING = -1000006;
     private static final int SIZE = -1000007;
     private static final int MIN = Integer.MIN_VALUE;
@@ -332,6 +333,28 @@ public final class PromiseTest {
         due(11, "sunday", x.of(0, 2), 7);
     }
 
+    /** No promise holds behind 512 calls, but only there can DAY come to its end. */
+    private static void endOfDays() {
+        VaguePort x = from("ship at 14; ship at 15");
+        for (int i = 0; i < 1666; i++) {
+            x.go(60);
+        }
+        due(11, "day", x.now(0), 99960);
+        due(11, "would be above", x.go(40), STATE);
+        due(26, "would be above, beyond first", x.committee(21), BEYOND);
+        due(11, "just not", x.go(20), 3);
+        due(26, "would be above", x.committee(20), STATE);
+        due(26, "just not", x.committee(19), 3);
+        due(11, "last day", x.now(0), 99999);
+        due(11, "no more", x.go(1), STATE);
+        due(26, "no more", x.committee(1), STATE);
+        due(43, "counted", x.status(4), 4);
+        // An engagement blurs by 5 on each odd day, and DAY stays odd.
+        x.saying(4, 0, 0);
+        due(13, "no later day", x.ahead(0, 2, 4), 20);
+        due(11, "unchanged", x.now(0), 99999);
+    }
+
     private static void nowTells() {
         VaguePort x = from("saying 20 at 2; saying 20 at 9; sermon 40 at 15 finished; ship;"
                 + "ship at 9 sees 19; ship at 9 sees 20; ship at 15 sees 99");
@@ -532,6 +555,13 @@ public final class PromiseTest {
             due(23, "beyond", x.decide(n), BEYOND);
         }
         due(23, "16 is told", x.decide(16), 4);
+        VaguePort y = from("ship at 5 sees 0 fast 1");
+        for (int i = 0; i < 8; i++) {
+            y.saying(0, 9, 5 + i);
+        }
+        due(23, "all eight", y.decide(10), 255);
+        y.change(3, 1, 0);
+        due(23, "seven, since one is out of the way", y.decide(16), 255 - 8);
         due(23, "unchanged", x.now(2), 0);
     }
 
@@ -645,6 +675,8 @@ public final class PromiseTest {
         x.steer(0, 1, 0);
         due(27, "never", x.odds(0, 3, 0), 0);
         due(27, "never", x.odds(0, 3, 1), 1);
+        due(27, "never", x.odds(0, 15, 0), 0);
+        due(27, "never", x.odds(0, 15, 1), 1);
         due(27, "no cells", x.odds(0, 0, 0), 1);
         int[][] bad = {{-1, 0, 0}, {2, 0, 0}, {0, -1, 0}, {0, 16, 0}, {0, 0, -1}, {0, 0, 2}};
         for (int[] b : bad) {
@@ -652,11 +684,20 @@ public final class PromiseTest {
         }
         due(27, "counted", x.status(0), 6);
         VaguePort y = from("saying 40 at 3; saying 50 at 14; ship sees 0; ship sees 34; ship sees 44");
-        for (int good = 0; good < 3; good++) {
-            long above = y.odds(good, 2, 0);
-            long below = y.odds(good, 2, 1);
-            due(27, "lowest terms", above % 2 == 0 ? 0 : 1, 1);
-            due(27, "below divides 256", 256 % below, 0);
+        // Thick at 1 to 5 (24, 32, 40, 32, 24) and at 12 to 14 (30, 40, 50); 15 is never gone on from.
+        int[] good = {7, 12, 14};
+        for (int ship = 0; ship < 3; ship++) {
+            for (int n = 0; n <= 15; n++) {
+                long above = 1;
+                long below = 1;
+                for (int i = 0; i < n; i++) {
+                    int common = good[ship] == 12 ? 4 : good[ship] == 14 ? 2 : 1;
+                    above *= good[ship] / common;
+                    below *= 16 / common;
+                }
+                due(27, "above, ship " + ship + ", n " + n, y.odds(ship, n, 0), above);
+                due(27, "below, ship " + ship + ", n " + n, y.odds(ship, n, 1), below);
+            }
         }
     }
 
@@ -732,6 +773,7 @@ public final class PromiseTest {
         x = new VaguePort();
         due(31, "no blanks", text(x, "law1at2said3finished;plain004"), 2);
         due(31, "said", x.of(0, 4) * 10 + x.of(0, 3), 31);
+        due(31, "0 is told", text(x, "law 0 at 0 said 0; ship at 0 sees 0 fast 1; finish 0 0"), 3);
         due(31, "zeros", x.of(1, 2), 4);
     }
 
@@ -744,7 +786,8 @@ public final class PromiseTest {
             "ship sees 1 at 1", "ship said 1", "ship finished", "ship at 1 at 1", "ships",
             "finish", "finish 6 0", "finish 0 9", "finish 0", "finish 0 0 0", "finish 05", "finish x",
             "finished", "finish 0 0 finished", "at 1", "1", "finish 0 0; law 1; ship at 77",
-            "law 99999999999999999999", "law 4294967296", "law 1 said 4294967297", "lawz1",
+            "xaw 1", "xhip", "xinish 0 0", "law 1 xt 1", "law 1 xaid 1", "law 1 xinished",
+            "ship xees 1", "ship xast 1", "law 99999999999999999999", "law 4294967296", "law 1 said 4294967297", "lawz1",
             "finish 0 0;finish 5 5;engagement 1 at 1 said 1 finish"};
         int[] places = {0, 3, 3, 4, 4, 4, 4, 0,
             7, 6, 0, 8, 9, 9, 10,
@@ -754,7 +797,8 @@ public final class PromiseTest {
             12, 5, 5, 10, 0,
             6, 7, 9, 8, 11, 9, 7,
             0, 11, 0, 0, 27,
-            4, 4, 11, 0,
+            0, 0, 0, 6, 6, 6,
+            5, 5, 4, 4, 11, 0,
             47};
         for (int i = 0; i < texts.length; i++) {
             fault(texts[i], places[i]);
@@ -1041,6 +1085,7 @@ public final class PromiseTest {
         days();
         daysFinish();
         daysInOrder();
+        endOfDays();
         nowTells();
         whatWillBe();
         whenItWillBe();
