@@ -624,8 +624,14 @@ public final class VaguePort {
                 trial.setOfSaying(saying, OF_FINISHED, 1);
             }
         }
-        trial.passDays(n, ALL_SHIPS);
-        return Integer.bitCount(trial.shipsInPort()) == trial.shipCount;
+        // There are many sets to try: one is given up as soon as some ship would come too late.
+        for (int left = n; left > 0; left--) {
+            if (!trial.couldAllLand(left)) {
+                return false;
+            }
+            trial.passDays(1, ALL_SHIPS);
+        }
+        return trial.couldAllLand(0);
     }
 
     private int faultOfSheet(int s) {
@@ -1038,6 +1044,15 @@ public final class VaguePort {
                 }
             }
             return set;
+        }
+
+        boolean couldAllLand(int days) {
+            for (int ship = 0; ship < shipCount; ship++) {
+                if (shipHas(ship, SHIP_CELL) + days * shipHas(ship, SHIP_FAST) < PORT) {
+                    return false;
+                }
+            }
+            return true;
         }
 
         int shipsThatGoOn() {
