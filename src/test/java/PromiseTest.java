@@ -344,6 +344,9 @@ public final class PromiseTest {
         due(26, "would be above, beyond first", x.committee(21), BEYOND);
         due(11, "just not", x.go(20), 3);
         due(26, "would be above", x.committee(20), STATE);
+        x.image();
+        due(11, "just not", x.go(19), 3);
+        x.undo();
         due(26, "just not", x.committee(19), 3);
         due(11, "last day", x.now(0), 99999);
         due(11, "no more", x.go(1), STATE);
@@ -460,6 +463,20 @@ public final class PromiseTest {
     }
 
     private static void landsAtTheEdge() {
+        // The fog of two engagements, one halved again and again, and of a sermon comes in waves.
+        VaguePort x = from("engagement 99 at 7; sermon 99 at 13; engagement 46 at 7; finish 3 2;"
+                + "finish 5 2; ship at 12 sees 37 fast 2");
+        due(16, "behind 224", x.lands(0), NONE);
+        x.go(23);
+        due(16, "behind 201", x.lands(0), NONE);
+        x.go(1);
+        due(16, "behind 200", x.lands(0), 200);
+        x.go(60);
+        x.go(60);
+        x.go(60);
+        due(16, "behind 20", x.lands(0), 20);
+        due(11, "not there yet", x.go(19), 0);
+        due(11, "there", x.go(1), 1);
         due(16, "a plain one alone", from("plain 0 at 14; ship at 14 sees 0").lands(0), 1);
         for (int said = 0; said < 30; said++) {
             VaguePort y = from("promise 98; ship sees 99 fast 1");
@@ -504,6 +521,22 @@ public final class PromiseTest {
         for (int[] b : bad2) {
             due(20, "beyond", x.kindFor(b[0], b[1]), BEYOND);
         }
+    }
+
+    private static void noneIsBest() {
+        // Ship 1 passes 7 on day 1 by all the plain ones' help; ship 0, at 2, is five off the
+        // engagement, where half as vague makes it thicker: 128 - 5 * 25, not 212 - 5 * 42.
+        VaguePort x = from("plain 0 at 6; plain 0 at 9; engagement 84 at 7; plain 0 at 6;"
+                + "plain 0 at 8; plain 0 at 8; plain 0 at 9; plain 0 at 8");
+        text(x, "ship at 0 sees 2; ship at 5 sees 44");
+        due(19, "none", x.finishFor(0, 2), 8);
+        due(19, "it matters no more", x.finishFor(1, 2), 0);
+        VaguePort y = from("ship;ship;ship;ship;ship;ship;saying 99");
+        for (int ship = 0; ship < 6; ship++) {
+            y.steer(ship, 3, 9999);
+        }
+        due(19, "none can wait more", y.finishFor(0, 40), 0);
+        due(20, "none can wait more", y.kindFor(0, 40), 0);
     }
 
     private static void eyesAndSpeed() {
@@ -1092,6 +1125,7 @@ public final class PromiseTest {
         edgeOfLooking();
         whatToFinish();
         landsAtTheEdge();
+        noneIsBest();
         eyesAndSpeed();
         decisions();
         toldThickness();
