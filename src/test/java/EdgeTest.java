@@ -385,7 +385,11 @@ public final class EdgeTest {
         edge(TERMS, "a NUMBER that isn't as told, another WORD, a byte that begins no TOKEN",
                 "say 'law  100' = -6", "say 'laws 1' = -1", "say 'law 1 sees 1' = -7", "say 'ship  ?' = -7",
                 "say 'ship said 1' = -6", "say '\u00ff' = -1", "say 'ship\u0000' = -5",
-                "say 'ship;-1' = -6", "say '1' = -1");
+                "say 'ship;-1' = -6", "say '1' = -1", "say 'lawz 1' = -1",
+                "say 'alaw 1' = -1", "say 'zaw 1' = -1", "say 'la 1' = -1", "say 'ship;thip' = -6",
+                "say 'binish 0 0' = -1", "say 'law 1 bt 1' = -7", "say 'law 1 taid 1' = -7",
+                "say 'law 1 binished' = -7", "say 'ship tees 1' = -6", "say 'ship past 1' = -6",
+                "say 'ship fas 1' = -6", "say 'ship fasts 1' = -6");
         edge(TERMS, "the WORD of a 9th SAYING, of a 7th SHIP: its own",
                 times(7, "saying 0 0 0"), times(5, "ship 0 1"), "say 'law 1;  law 100' = -9",
                 "say 'law 1;law' = -7", "say 'law 1;lawx' = -7", "say 'ship; ship at 16' = -7",
@@ -488,13 +492,17 @@ public final class EdgeTest {
     private static void now() {
         edge(12, "5 the CELL where it is thickest", "now 5 = 0", "saying 0 9 15 = 0", "now 5 = 15",
                 "saying 0 9 5 = 1", "now 5 = 5", "change 0 2 10 = 9", "now 5 = 15", "change 0 2 0 = 10",
-                "change 1 2 3 = 9", "now 5 = 3");
+                "change 1 2 3 = 9", "now 5 = 3",
+                // A plain one thins 12 to 15 more than it could what lies beyond: there is no cell 16.
+                "saying 5 0 12 = 2", "change 1 3 1 = 0", times(5, "saying 0 8 15"), "now 5 = 15",
+                "thick 15 = 19");
         edge(12, "6 CELLS where it isn't THICK at all (0), as a set", "now 6 = 65535",
                 "say 'saying 1 at 2;saying 30 at 12;plain 0 at 12' = 3", "now 6 = 65504",
                 "change 1 2 31 = 30", "now 6 = 61408");
         edge(12, "2 SAYINGS that are FINISHED, as a set, 3 VAGUE of all that aren't FINISHED together",
-                EIGHT_SAYINGS, "now 2 = 0", "now 3 = 28", "change 7 3 1 = 0", "change 0 3 1 = 0",
-                "now 2 = 129", "now 3 = 21");
+                EIGHT_SAYINGS, "now 2 = 0", "now 3 = 28", "change 7 3 1 = 0", "now 2 = 128",
+                "now 3 = 21", "change 0 2 99 = 0", "now 3 = 120", "change 0 3 1 = 0", "now 2 = 129",
+                "now 3 = 21");
         edge(12, "7 SHIPS that would go on now, as a set", SIX_SHIPS, "now 7 = 63", "steer 5 0 15 = 0",
                 "now 7 = 31", "saying 0 31 0 = 0", "now 7 = 0", "steer 4 1 31 = 30", "now 7 = 16");
         edge(12, "BEYOND", outside("now 0", 0, 7), "now 0 = 0", "now 7 = 0");
@@ -573,7 +581,9 @@ public final class EdgeTest {
         edge(19, "so that WAITED of all together is least behind n (0 to 40) DAYS",
                 "say 'engagement 99 at 9 said 21;saying 40 at 14;ship at 14 sees 0' = 3",
                 "finishFor 0 0 = 0", "finishFor 0 39 = 0", "finishFor 0 40 = 1", "finishFor 0 41 = BEYOND",
-                "finishFor 0 -1 = BEYOND");
+                "finishFor 0 -1 = BEYOND", "steer 0 3 9999 = 0", "finishFor 0 40 = 0",
+                times(5, "ship 0 1"), "steer 1 3 9999 = 0", "steer 2 3 9999 = 0", "steer 3 3 9999 = 0",
+                "steer 4 3 9999 = 0", "steer 5 3 9999 = 0", "finishFor 0 40 = 0", "kindFor 1 40 = 0");
         edge(19, "BEYOND", (Object) outside("finishFor 0 0", 0, 5, 0, 40));
         edge(20, "BEYOND", "kindFor 0 0 = BEYOND", "say 'engagement 35 at 3;ship at 3' = 2",
                 outside("kindFor 0 0", 0, 0, 0, 40), "kindFor 0 0 = 0", "kindFor 0 1 = 2",
@@ -607,11 +617,14 @@ public final class EdgeTest {
         edge(23, "The set of fewest SAYINGS such that, if these are FINISHED, too, now",
                 "say 'saying 20 at 5;saying 20 at 5;saying 40 at 5;ship at 5 sees 40' = 4", "decide 5 = 4",
                 "change 2 3 1 = 0", "decide 5 = 0", "change 2 3 0 = 1", "steer 0 1 0 = 40", "decide 5 = 7",
-                "change 0 3 1 = 0", "decide 5 = 6", "now 2 = 1");
+                "change 0 3 1 = 0", "decide 5 = 6", "now 2 = 1",
+                times(5, "saying 0 1 5"), "change 0 3 0 = 1", "decide 5 = 255", "change 7 2 0 = 1",
+                "decide 4 = NONE", "steer 0 2 5 = 2", "decide 2 = 127");
         edge(23, "all SHIPS are in port behind n (0 to 16) DAYS", "decide 0 = 0",
                 "say 'saying 31;finish 0 0;ship fast 1' = 3", "decide 16 = 0", "decide 15 = 1",
                 "decide 14 = NONE", "decide 0 = NONE", "decide 17 = BEYOND", "decide -1 = BEYOND",
-                "steer 0 0 15 = 0", "decide 0 = 0");
+                "steer 0 0 15 = 0", "decide 0 = 0", "steer 0 0 14 = 15", "change 0 1 14 = 0",
+                "list 0 8 = 0", "decide 1 = 1", "decide 16 = 1", "decide 0 = NONE");
         edge(23, "of several the least", "say 'saying 20;saying 20;saying 20;ship sees 40' = 4",
                 "decide 16 = 1", "steer 0 1 39 = 40", "decide 16 = 3", "steer 0 1 19 = 39",
                 "decide 16 = 7", "change 0 2 0 = 20", "decide 16 = 6");
@@ -777,7 +790,11 @@ public final class EdgeTest {
                 "load 0 = 0", "sheet 0 8 8 = 8", "now 3 = 28", "load 0 = 8", "now 3 = 0",
                 "write 0 0 7 = 1", "sheet 0 8 1 = 1", "load 0 = 1", "of 0 2 = 0", "write 0 1 7 = BEYOND",
                 "write 0 0 7 = 1", "sheet 0 8 40 = 40", "load 0 = 8", "of 0 2 = 0", "sheet 3 16 40 = 40",
-                "sheet 2 32 40 = 40", "write 2 39 1 = 1", "write 2 40 1 = BEYOND");
+                "sheet 2 32 40 = 40", "write 2 39 1 = 1", "write 2 40 1 = BEYOND", "row 1 8: 5 6 7",
+                "sheet 0 8 40 = 40", "write 0 39 9 = 1", "sheet 2 8 40 = 40", "write 2 0 9 = 1",
+                "load 1 = 3", "of 0 2 = 5", "of 2 2 = 7", "sheet 1 8 3 = 3", "load 1 = 3", "of 0 2 = 0",
+                "of 1 2 = 0", "of 2 2 = 0", "load 2 = 8", "of 0 2 = 9", "copy 0 39 1 2 1 = 1",
+                "load 1 = 3", "of 2 2 = 9");
         edge(34, "bits 0: it is MISSING: n (0 if it is MISSING)", "sheet 0 0 0 = 0", "sheet 0 0 40 = 0",
                 "sheet 0 8 3 = 3", "judge 0 = 1", "sheet 0 0 3 = 0", "judge 0 = MISSING",
                 "write 0 0 0 = MISSING");
